@@ -1,0 +1,151 @@
+/** Promises 12 to 14: undo, keep, restore. */
+public final class HistoryTest {
+    private static final Due due = new Due();
+
+    public static void main(String[] args) {
+        undo();
+        undoBringsAllBack();
+        oneStateAnAct();
+        keepAndRestore();
+        due.end();
+    }
+
+    private static void undo() {
+        TaxiRank rank = new TaxiRank();
+        due.is("undo()", TaxiRank.NONE, rank.undo());
+        for (int i = 1; i <= 6; i++) {
+            rank.come(i);
+            due.is("count(15)", Math.min(i, 4), rank.count(15));
+        }
+        for (int i = 5; i >= 2; i--) {
+            due.is("undo()", i - 2, rank.undo());
+            due.is("count(2)", i, rank.count(2));
+            due.is("count(15)", i - 2, rank.count(15));
+        }
+        due.is("the oldest ones were dropped", TaxiRank.NONE, rank.undo());
+        due.line(rank, 1, 2);
+        due.is("a plate that was undone may come", 2, rank.come(0));
+        due.is("plate(0)", 0, rank.plate(0));
+        due.is("plate(2)", 2, rank.plate(2));
+    }
+
+    private static void undoBringsAllBack() {
+        TaxiRank rank = Due.withTaxis(5, 3, 4);
+        rank.arrive(11);
+        rank.pass(5);
+        rank.arrive(1);
+        rank.arrive(2);
+        int[] counts = new int[15];
+        for (int what = 0; what < counts.length; what++) {
+            counts[what] = rank.count(what);
+        }
+        rank.pass(999);
+        rank.set(0, 7);
+        rank.goHome(3);
+        rank.come(0);
+        rank.undo();
+        rank.undo();
+        rank.undo();
+        rank.undo();
+        for (int what = 0; what < counts.length; what++) {
+            due.is("count(" + what + ")", counts[what], rank.count(what));
+        }
+        due.line(rank, 5, 3, 4);
+        due.taxi(rank, 5, 0, 0, 0, 4, 1, 0, 42, 1, 1, 1);
+        due.taxi(rank, 3, 0, 1, 0, 0, 0, 0, 0, 0, 0, 1);
+        due.is("waiting(0, 0)", 1, rank.waiting(0, 0));
+        due.is("waiting(1, 1)", 0, rank.waiting(1, 1));
+    }
+
+    private static void oneStateAnAct() {
+        TaxiRank rank = new TaxiRank();
+        rank.come(1);
+        rank.undo();
+        due.is("come", 0, rank.count(15));
+        rank.come(1000);
+        rank.goHome(1);
+        rank.set(0, 2);
+        rank.set(0, 0);
+        rank.arrive(10);
+        rank.call(1, 2);
+        rank.pass(0);
+        rank.perform();
+        rank.restore();
+        rank.keep();
+        rank.type('w');
+        rank.clearText();
+        due.is("no errors, no NONE, no keep()", 0, rank.count(15));
+        rank.come(1);
+        due.is("come", 1, rank.count(15));
+        rank.goHome(1);
+        due.is("goHome", 2, rank.count(15));
+        rank.undo();
+        rank.set(0, 3);
+        due.is("set", 2, rank.count(15));
+        rank.undo();
+        rank.arrive(1);
+        due.is("arrive", 2, rank.count(15));
+        rank.undo();
+        rank.call(1, 2);
+        due.is("call", 2, rank.count(15));
+        rank.undo();
+        rank.pass(1);
+        due.is("pass", 2, rank.count(15));
+        rank.undo();
+        Due.retype(rank, ".1;.2");
+        rank.perform();
+        due.is("perform", 2, rank.count(15));
+        rank.undo();
+        rank.restore();
+        due.is("restore", 2, rank.count(15));
+        due.is("all told changes nothing", 2, askAll(rank));
+    }
+
+    private static int askAll(TaxiRank rank) {
+        for (int i = -1; i < 22; i++) {
+            rank.taxi(1, i);
+            rank.line(i);
+            rank.plate(i);
+            rank.waiting(i, 0);
+            rank.rides(i);
+            rank.ifCalled(i, 3, 0);
+            rank.reason(1, i);
+            rank.ridesIn(i);
+            rank.inLineIn(i);
+            rank.shares(i);
+            rank.count(i);
+        }
+        return rank.count(15);
+    }
+
+    private static void keepAndRestore() {
+        TaxiRank rank = Due.withTaxis(1);
+        due.is("no snapshot", TaxiRank.NONE, rank.restore());
+        rank.pass(7);
+        due.is("keep()", 7, rank.keep());
+        rank.pass(100);
+        rank.set(1, 9);
+        rank.come(2);
+        due.is("restore()", 7, rank.restore());
+        due.is("it is an act", 4, rank.count(15));
+        due.is("count(11)", 30, rank.count(11));
+        due.line(rank, 1);
+        rank.come(3);
+        due.is("the snapshot stays", 7, rank.restore());
+        due.line(rank, 1);
+        due.is("undo()", 3, rank.undo());
+        due.line(rank, 1, 3);
+        due.is("undo()", 2, rank.undo());
+        due.is("undo()", 1, rank.undo());
+        due.is("count(0)", 107, rank.count(0));
+        due.line(rank, 1, 2);
+        due.is("in place of the one that was", 107, rank.keep());
+        rank.pass(1);
+        due.is("restore()", 107, rank.restore());
+        due.line(rank, 1, 2);
+        // undo does not touch the snapshot
+        rank.undo();
+        due.is("count(0)", 108, rank.count(0));
+        due.is("restore()", 107, rank.restore());
+    }
+}
