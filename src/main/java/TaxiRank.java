@@ -110,16 +110,12 @@ public final class TaxiRank {
         for (int order = 0; order < orders.amount; order++) {
             int first = orders.firsts[order];
             int answer;
-            switch (orders.signs[order]) {
-                case 'w':
-                    answer = town.letJoin(first);
-                    break;
-                case 'c':
-                    answer = town.takeCall(first, orders.seconds[order]);
-                    break;
-                default:
-                    answer = town.letPass(first);
-                    break;
+            if (orders.signs[order] == 'w') {
+                answer = town.letJoin(first);
+            } else if (orders.signs[order] == 'c') {
+                answer = town.takeCall(first, orders.seconds[order]);
+            } else {
+                answer = town.letPass(first);
             }
             if (answer < 0) {
                 town.copyFrom(spare);
@@ -365,21 +361,6 @@ public final class TaxiRank {
         int from;
         /** Kept behind the ride, too: it tells the side from which the taxi comes back. */
         int to;
-
-        void startAnew(int newPlate) {
-            plate = newPlate;
-            doing = AT_HOME;
-            left = 0;
-            atWheel = 0;
-            fares = 0;
-            longFares = 0;
-            coins = 0;
-            quickReturns = 0;
-            quick = false;
-            shortOfRank = false;
-            from = Town.RANK;
-            to = Town.RANK;
-        }
 
         void copyFrom(Taxi other) {
             plate = other.plate;
@@ -868,7 +849,7 @@ public final class TaxiRank {
         // ---- the line
 
         private void standLast(Taxi taxi) {
-            standAt(taxi, lineLength);
+            standAt(taxi, lineLength, false);
         }
 
         private void standQuickly(Taxi taxi) {
@@ -880,12 +861,11 @@ public final class TaxiRank {
                 }
                 place++;
             }
-            standAt(taxi, place);
-            taxi.quick = true;
+            standAt(taxi, place, true);
             taxi.quickReturns++;
         }
 
-        private void standAt(Taxi taxi, int place) {
+        private void standAt(Taxi taxi, int place, boolean quick) {
             if (lineLength >= MOST_TAXIS || place < 0) {
                 return;
             }
@@ -896,7 +876,7 @@ public final class TaxiRank {
             lineLength++;
             taxi.doing = Taxi.IN_LINE;
             taxi.left = 0;
-            taxi.quick = false;
+            taxi.quick = quick;
         }
 
         private void leaveLine(Taxi taxi) {
@@ -911,7 +891,7 @@ public final class TaxiRank {
             taxi.quick = false;
         }
 
-        /** For a plate that is not there yet, while there is room. */
+        /** For a plate that is not there yet, while there is room; a taxi not in use is as it was made. */
         private Taxi register(int plate) {
             Taxi unused = taxis[taxiCount];
             int at = taxiCount;
@@ -921,7 +901,7 @@ public final class TaxiRank {
             }
             taxis[at] = unused;
             taxiCount++;
-            unused.startAnew(plate);
+            unused.plate = plate;
             return unused;
         }
     }

@@ -5,6 +5,8 @@ public final class HistoryTest {
     public static void main(String[] args) {
         undo();
         undoBringsAllBack();
+        undoEachAct();
+        undoAccounts();
         oneStateAnAct();
         keepAndRestore();
         due.end();
@@ -55,6 +57,82 @@ public final class HistoryTest {
         due.taxi(rank, 3, 0, 1, 0, 0, 0, 0, 0, 0, 0, 1);
         due.is("waiting(0, 0)", 1, rank.waiting(0, 0));
         due.is("waiting(1, 1)", 0, rank.waiting(1, 1));
+    }
+
+    private static void undoEachAct() {
+        TaxiRank rank = Due.withTaxis(1, 2, 3);
+        rank.goHome(2);
+        rank.undo();
+        due.line(rank, 1, 2, 3);
+        rank.set(3, 99);
+        rank.undo();
+        due.is("count(13)", 240, rank.count(13));
+        due.line(rank, 1, 2, 3);
+        rank.arrive(4);
+        rank.undo();
+        due.is("count(4)", 0, rank.count(4));
+        rank.call(4, 5);
+        rank.undo();
+        due.is("count(7)", 0, rank.count(7));
+        due.line(rank, 1, 2, 3);
+        rank.pass(9);
+        rank.undo();
+        due.is("count(0)", 0, rank.count(0));
+        rank.come(4);
+        rank.undo();
+        due.is("count(2)", 3, rank.count(2));
+        rank.keep();
+        rank.pass(8);
+        rank.restore();
+        rank.undo();
+        due.is("count(0)", 8, rank.count(0));
+        rank.ridesIn(0);
+        rank.inLineIn(1);
+        rank.goHome(3);
+        rank.undo();
+        due.is("what was tried is not recorded", 8, rank.count(0));
+        due.line(rank, 1, 2, 3);
+    }
+
+    private static void undoAccounts() {
+        TaxiRank rank = Due.withTaxis(1, 2);
+        rank.set(1, 2);
+        rank.arrive(0);
+        rank.pass(1);
+        rank.call(8, 20);
+        rank.arrive(4);
+        rank.arrive(5);
+        rank.pass(100);
+        due.is("left", 2, rank.count(6));
+        due.line(rank, 1, 2);
+        due.is("long", 1, rank.taxi(1, 5));
+        rank.keep();
+        rank.call(0, 20);
+        rank.arrive(3);
+        rank.arrive(3);
+        rank.arrive(3);
+        rank.pass(10);
+        due.is("left", 4, rank.count(6));
+        due.is("calls", 2, rank.count(7));
+        due.is("long", 2, rank.taxi(1, 5));
+        rank.restore();
+        due.is("left", 2, rank.count(6));
+        due.is("calls", 1, rank.count(7));
+        due.is("long", 1, rank.taxi(1, 5));
+        due.is("paid", 324, rank.count(8));
+        due.is("taken", 2, rank.count(5));
+        due.is("at the wheel", 88, rank.count(9));
+        // a short fare of the rank is one still, though undo() brings it back
+        rank.arrive(8);
+        rank.pass(1);
+        rank.pass(2);
+        rank.call(10, 19);
+        rank.pass(100);
+        rank.undo();
+        rank.undo();
+        rank.pass(6);
+        due.line(rank, 1, 2);
+        due.is("came back quickly", 1, rank.taxi(1, 8));
     }
 
     private static void oneStateAnAct() {

@@ -157,6 +157,17 @@ public final class PassengersTest {
         rank.pass(10);
         rank.arrive(2);
         rank.pass(19);
+        rank.undo();
+        rank.pass(5);
+        rank.arrive(3);
+        rank.pass(15);
+        due.is("the first has left", 2, rank.count(4));
+        due.is("20 minutes", 20, rank.waiting(0, 1));
+        due.is("15 minutes", 15, rank.waiting(1, 1));
+        rank.undo();
+        rank.undo();
+        rank.undo();
+        rank.pass(19);
         due.is("both wait", 2, rank.count(4));
         due.is("29 minutes", 29, rank.waiting(0, 1));
         due.is("19 minutes", 19, rank.waiting(1, 1));
