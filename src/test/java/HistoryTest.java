@@ -86,12 +86,29 @@ public final class HistoryTest {
         rank.restore();
         rank.undo();
         due.is("count(0)", 8, rank.count(0));
-        rank.ridesIn(0);
-        rank.inLineIn(1);
-        rank.goHome(3);
-        rank.undo();
-        due.is("what was tried is not recorded", 8, rank.count(0));
-        due.line(rank, 1, 2, 3);
+        rank.call(4, 5);
+        Due.retype(rank, "w1;.1");
+        int[] dues = {1, 30, 2, 1, 2, 0, 2};
+        for (int which = 0; which < dues.length; which++) {
+            due.is("tried", 12 + 2 + 10, rank.inLineIn(1));
+            due.is("act " + which, dues[which], act(rank, which));
+            rank.undo();
+            due.is("what was tried is not recorded", 8, rank.count(0));
+            due.line(rank, 2, 3);
+            due.is("count(4)", 0, rank.count(4));
+        }
+    }
+
+    private static int act(TaxiRank rank, int which) {
+        switch (which) {
+            case 0: return rank.goHome(3);
+            case 1: return rank.set(1, 3);
+            case 2: return rank.come(4);
+            case 3: return rank.arrive(4);
+            case 4: return rank.call(10, 11);
+            case 5: return rank.pass(1);
+            default: return rank.perform();
+        }
     }
 
     private static void undoAccounts() {
@@ -126,8 +143,8 @@ public final class HistoryTest {
         rank.arrive(8);
         rank.pass(1);
         rank.pass(2);
-        rank.call(10, 19);
-        rank.pass(100);
+        rank.pass(20);
+        due.is("a call, behind which it would not come back quickly", 1, rank.call(10, 19));
         rank.undo();
         rank.undo();
         rank.pass(6);
