@@ -48,8 +48,12 @@ final class Due {
     }
 
     static void passTo(TaxiRank rank, int clock) {
-        while (rank.count(0) < clock) {
-            rank.pass(Math.min(999, clock - rank.count(0)));
+        int left = clock - rank.count(0);
+        for (; left > 999; left -= 999) {
+            rank.pass(999);
+        }
+        if (left > 0) {
+            rank.pass(left);
         }
     }
 

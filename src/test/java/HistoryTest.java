@@ -9,6 +9,7 @@ public final class HistoryTest {
         undoAccounts();
         oneStateAnAct();
         keepAndRestore();
+        noPartOfAState();
         due.end();
     }
 
@@ -242,5 +243,38 @@ public final class HistoryTest {
         rank.undo();
         due.is("count(0)", 108, rank.count(0));
         due.is("restore()", 107, rank.restore());
+    }
+
+    /** Text, history, snapshot and stop stay as they are, whatever state is restored. */
+    private static void noPartOfAState() {
+        TaxiRank rank = Due.withTaxis(1);
+        due.is("a snapshot without text and stop", 0, rank.keep());
+        rank.pass(1);
+        Due.retype(rank, ".1;c0>1;c0>1");
+        rank.perform();
+        rank.pass(10);
+        due.is("three states", 3, rank.count(15));
+        due.is("restore()", 0, rank.restore());
+        due.is("one more state", 4, rank.count(15));
+        textAndStop(rank, 12, 2);
+        due.is("undo()", 3, rank.undo());
+        due.is("the clock", 11, rank.count(0));
+        textAndStop(rank, 12, 2);
+        Due.retype(rank, "c0>1;c0>1");
+        rank.perform();
+        due.is("undo()", 2, rank.undo());
+        textAndStop(rank, 9, 1);
+        rank.clearText();
+        due.is("undo()", 1, rank.undo());
+        textAndStop(rank, 0, 1);
+        due.is("the snapshot is there", 0, rank.restore());
+        textAndStop(rank, 0, 1);
+        due.is("the history, too", 2, rank.count(15));
+    }
+
+    private static void textAndStop(TaxiRank rank, int length, int order) {
+        due.is("the text", length, rank.count(16));
+        due.is("the order", order, rank.stopped(0));
+        due.is("the error", TaxiRank.NOT_POSSIBLE, rank.stopped(1));
     }
 }

@@ -2,8 +2,10 @@ import java.util.Random;
 
 /** All promises: runs of calls, drawn from fixed seeds, on the class and on TaxiModel. */
 public final class ModelTest {
-    private static final int RUNS = 600;
-    private static final int CALLS = 250;
+    private static final int RUNS = 6000;
+    /** An object is used for at most 512 calls; an act with its text and its questions takes at most 100. */
+    private static final int CALLS = 412;
+    private static final int QUESTIONS = 10;
     private static final int[] ODD = {Integer.MIN_VALUE, -100, -1, 0, 1, 5, 10, 20, 21, 240, 1000, Integer.MAX_VALUE};
     private static final String SIGNS = "0123456789wwwccc...>>>;;;;x";
 
@@ -13,6 +15,7 @@ public final class ModelTest {
     private final StringBuilder calls = new StringBuilder();
     private final int[] plates;
     private boolean wrong = false;
+    private int made = 0;
 
     private ModelTest(int seed) {
         random = new Random(seed);
@@ -37,9 +40,11 @@ public final class ModelTest {
 
     private boolean agree(int seed) {
         int pace = 1 + seed % 3 * (seed % 5) * 40;
-        for (int i = 0; i < CALLS && !wrong; i++) {
+        while (made < CALLS && !wrong) {
             act(pace);
-            ask();
+            for (int i = random.nextInt(QUESTIONS); i > 0; i--) {
+                ask();
+            }
         }
         if (wrong) {
             System.out.println("run " + seed + ":\n" + calls);
@@ -48,6 +53,7 @@ public final class ModelTest {
     }
 
     private void same(String call, int got, int want) {
+        made++;
         if (got != want) {
             wrong = true;
             calls.append(call).append(" answered ").append(got).append(", the model ").append(want).append('\n');
@@ -77,11 +83,15 @@ public final class ModelTest {
     }
 
     private int value(int which) {
-        int[] most = {9, 60, 20, 300, 100};
+        int[] least = {1, 1, 1, 30, 1};
+        int[] most = {9, 240, 20, 999, 240};
         if (which < 0 || which > 4 || random.nextInt(10) == 0) {
             return odd();
         }
-        return 1 + random.nextInt(most[which]);
+        if (random.nextInt(4) == 0) {
+            return (random.nextBoolean() ? least[which] : most[which]) + random.nextInt(3) - 1;
+        }
+        return 1 + random.nextInt(Math.min(most[which], 100));
     }
 
     private void act(int pace) {
@@ -153,36 +163,34 @@ public final class ModelTest {
     }
 
     private void ask() {
-        for (int what = -1; what < 18; what++) {
-            same("count(" + what + ")", rank.count(what), model.count(what));
-        }
-        for (int plate : plates) {
-            for (int what = -1; what < 11; what++) {
-                same("taxi(" + plate + ", " + what + ")", rank.taxi(plate, what), model.taxi(plate, what));
-            }
-        }
-        for (int i = -1; i < 16; i++) {
-            same("line(" + i + ")", rank.line(i), model.line(i));
-            same("plate(" + i + ")", rank.plate(i), model.plate(i));
-            same("waiting(" + i + ", 0)", rank.waiting(i, 0), model.waiting(i, 0));
-            same("waiting(" + i + ", 1)", rank.waiting(i, 1), model.waiting(i, 1));
-        }
-        for (int to = -1; to < 22; to++) {
-            same("rides(" + to + ")", rank.rides(to), model.rides(to));
-        }
-        for (int what = -1; what < 4; what++) {
-            same("shares(" + what + ")", rank.shares(what), model.shares(what));
-            same("stopped(" + what + ")", rank.stopped(what), model.stopped(what));
-            int from = place();
-            int to = place();
-            same("ifCalled(" + from + ", " + to + ", " + what + ")", rank.ifCalled(from, to, what),
-                model.ifCalled(from, to, what));
-        }
-        int plate = plate();
+        int from = place();
         int to = place();
-        int place = random.nextInt(20) == 0 ? odd() : random.nextInt(6);
-        same("reason(" + plate + ", " + to + ")", rank.reason(plate, to), model.reason(plate, to));
-        same("ridesIn(" + place + ")", rank.ridesIn(place), model.ridesIn(place));
-        same("inLineIn(" + plate + ")", rank.inLineIn(plate), model.inLineIn(plate));
+        int plate = plate();
+        int what = random.nextInt(20) - 1;
+        int at = random.nextInt(40) == 0 ? odd() : random.nextInt(random.nextInt(2) == 0 ? 4 : 16);
+        switch (random.nextInt(14)) {
+            case 0 -> same("count(" + what + ")", rank.count(what), model.count(what));
+            case 1, 2, 3 -> {
+                int which = what % 12;
+                same("taxi(" + plate + ", " + which + ")", rank.taxi(plate, which), model.taxi(plate, which));
+            }
+            case 4 -> same("line(" + at + ")", rank.line(at), model.line(at));
+            case 5 -> same("plate(" + at + ")", rank.plate(at), model.plate(at));
+            case 6 -> {
+                int which = what % 4;
+                same("waiting(" + at + ", " + which + ")", rank.waiting(at, which), model.waiting(at, which));
+            }
+            case 7 -> same("rides(" + to + ")", rank.rides(to), model.rides(to));
+            case 8 -> {
+                int which = what % 4;
+                same("ifCalled(" + from + ", " + to + ", " + which + ")", rank.ifCalled(from, to, which),
+                    model.ifCalled(from, to, which));
+            }
+            case 9 -> same("reason(" + plate + ", " + to + ")", rank.reason(plate, to), model.reason(plate, to));
+            case 10 -> same("ridesIn(" + at + ")", rank.ridesIn(at), model.ridesIn(at));
+            case 11 -> same("inLineIn(" + plate + ")", rank.inLineIn(plate), model.inLineIn(plate));
+            case 12 -> same("shares(" + what % 4 + ")", rank.shares(what % 4), model.shares(what % 4));
+            default -> same("stopped(" + what % 3 + ")", rank.stopped(what % 3), model.stopped(what % 3));
+        }
     }
 }

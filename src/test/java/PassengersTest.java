@@ -12,6 +12,8 @@ public final class PassengersTest {
         patience();
         shortAndLongFares();
         quickComebacks();
+        quickBehindAllThatAreQuick();
+        risingPlates();
         callsAreNotQuick();
         rests();
         homeDays();
@@ -279,6 +281,52 @@ public final class PassengersTest {
         rank.pass(41);
         due.line(rank, 2, 4, 3, 1);
         due.is("not quick", 0, rank.taxi(1, 8));
+    }
+
+    private static void quickBehindAllThatAreQuick() {
+        TaxiRank rank = Due.withTaxis(1, 2);
+        rank.arrive(11);
+        rank.arrive(11);
+        rank.pass(5);
+        due.line(rank, 1, 2);
+        due.is("quick", 1, rank.taxi(1, 8));
+        due.is("quick", 1, rank.taxi(2, 8));
+        rank.arrive(11);
+        rank.pass(5);
+        due.line(rank, 2, 1);
+        due.is("quick", 1, rank.taxi(1, 8));
+        // a new one stands behind them, and a quick one ahead of it
+        rank.come(3);
+        rank.arrive(11);
+        rank.pass(5);
+        due.line(rank, 1, 2, 3);
+        due.is("not quick", 0, rank.taxi(3, 8));
+    }
+
+    private static void risingPlates() {
+        // in the minute in which the one comes back the rest of the other ends
+        for (int plate = 4; plate <= 6; plate += 2) {
+            int other = 10 - plate;
+            TaxiRank rank = Due.withTaxis(plate);
+            rank.set(3, 30);
+            rank.call(10, 20);
+            rank.pass(40);
+            rank.come(other);
+            rank.pass(29);
+            rank.call(10, 14);
+            rank.pass(15);
+            due.is("rests", 4, rank.taxi(plate, 0));
+            due.is("on its way back", 3, rank.taxi(other, 0));
+            rank.pass(1);
+            due.line(rank, 4, 6);
+        }
+        // a quick one stands ahead of one that came back before it in the same minute
+        TaxiRank rank = Due.withTaxis(2, 1);
+        rank.arrive(12);
+        rank.pass(1);
+        rank.call(10, 12);
+        rank.pass(8);
+        due.line(rank, 2, 1);
     }
 
     private static void callsAreNotQuick() {

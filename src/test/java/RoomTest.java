@@ -2,7 +2,8 @@ import java.lang.management.ManagementFactory;
 
 /** The room of LANGUAGE.md and of the project: an object makes its rows once, and no call makes more. */
 public final class RoomTest {
-    private static final int CALLS = 512;
+    /** With those that type the text they are nearly the 512 for which an object is used. */
+    private static final int CALLS = 464;
     private static final long MOST_FOR_CALLS = 16 * 1024;
     private static final long MOST_FOR_OBJECT = 32 * 1024;
     private static final Due due = new Due();
