@@ -535,11 +535,11 @@ public final class TaxiRank {
             if (taxi != null && taxi.doing != Taxi.AT_HOME) {
                 return NOT_POSSIBLE;
             }
-            if (taxi == null && taxiCount >= MOST_TAXIS) {
-                return FULL;
-            }
             if (taxi == null) {
                 taxi = register(plate);
+            }
+            if (taxi == null) {
+                return FULL;
             }
             taxi.atWheel = 0;
             standLast(taxi);
@@ -866,7 +866,7 @@ public final class TaxiRank {
         }
 
         private void standAt(Taxi taxi, int place, boolean quick) {
-            if (lineLength >= MOST_TAXIS || place < 0) {
+            if (lineLength >= MOST_TAXIS || place < 0 || place > lineLength) {
                 return;
             }
             for (int i = lineLength; i > place; i--) {
@@ -891,8 +891,11 @@ public final class TaxiRank {
             taxi.quick = false;
         }
 
-        /** For a plate that is not there yet, while there is room; a taxi not in use is as it was made. */
+        /** For a plate that is not there yet; null if there is no room. A taxi not in use is as it was made. */
         private Taxi register(int plate) {
+            if (taxiCount >= MOST_TAXIS) {
+                return null;
+            }
             Taxi unused = taxis[taxiCount];
             int at = taxiCount;
             for (int i = taxiCount - 1; i >= 0 && taxis[i].plate > plate; i--) {

@@ -12,6 +12,7 @@ public final class AnswersTest {
         ridesInWithoutTaxis();
         inLineIn();
         inLineInLong();
+        inLineInAtMost();
         shares();
         count();
         due.end();
@@ -230,6 +231,24 @@ public final class AnswersTest {
         due.is("18 minutes each, and 14 of them in 240 minutes", 18 * 14, rank.inLineIn(11));
         rank.set(0, 1);
         due.is("the first way as it began, then 2 minutes each", 9 + 1 + 28, rank.inLineIn(11));
+    }
+
+    private static void inLineInAtMost() {
+        // from one end to the other by the slowest ways, then a passenger there and the longest rest
+        TaxiRank rank = Due.withTaxis(11);
+        rank.set(0, 9);
+        rank.set(4, 240);
+        rank.call(10, 20);
+        rank.pass(90);
+        due.is("on its way back", 90, rank.inLineIn(11));
+        rank.pass(89);
+        due.is("a minute before", 1, rank.inLineIn(11));
+        rank.undo();
+        rank.call(0, 20);
+        due.is("there, on, back, and a rest", 180 + 180 + 90 + 240, rank.inLineIn(11));
+        rank.pass(690);
+        due.line(rank, 11);
+        due.is("in it", 0, rank.inLineIn(11));
     }
 
     private static void shares() {

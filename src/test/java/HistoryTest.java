@@ -7,6 +7,7 @@ public final class HistoryTest {
         undoBringsAllBack();
         undoEachAct();
         undoAccounts();
+        taxisThatAreGone();
         oneStateAnAct();
         keepAndRestore();
         noPartOfAState();
@@ -151,6 +152,24 @@ public final class HistoryTest {
         rank.pass(6);
         due.line(rank, 1, 2);
         due.is("came back quickly", 1, rank.taxi(1, 8));
+    }
+
+    /** Who comes behind a taxi of another state has nothing of its accounts. */
+    private static void taxisThatAreGone() {
+        TaxiRank rank = new TaxiRank();
+        rank.keep();
+        rank.come(5);
+        rank.arrive(11);
+        rank.pass(5);
+        rank.call(0, 20);
+        due.taxi(rank, 5, 1, TaxiRank.NONE, 20, 4, 2, 1, 42, 1, 0, 1);
+        due.is("restore()", 0, rank.restore());
+        due.is("no such taxi", TaxiRank.UNKNOWN, rank.taxi(5, 0));
+        due.is("the first one", 0, rank.come(6));
+        due.taxi(rank, 6, 0, 0, 0, 0, 0, 0, 0, 0, 0, 1);
+        due.is("and the next", 1, rank.come(5));
+        due.taxi(rank, 5, 0, 1, 0, 0, 0, 0, 0, 0, 0, 1);
+        due.is("shares(0)", 0, rank.shares(0));
     }
 
     private static void oneStateAnAct() {

@@ -9,6 +9,7 @@ public final class PassengersTest {
         callFromTheWayBack();
         callAtOnce();
         passErrors();
+        faresTogether();
         patience();
         shortAndLongFares();
         quickComebacks();
@@ -151,6 +152,27 @@ public final class PassengersTest {
         rank.come(8);
         rank.arrive(3);
         due.is("ridesIn(0)", 1, rank.ridesIn(0));
+    }
+
+    private static void faresTogether() {
+        TaxiRank rank = Due.withTaxis(1, 2, 3);
+        rank.call(10, 11);
+        rank.call(10, 8);
+        rank.call(10, 13);
+        due.is("the first one", 42, rank.pass(2));
+        due.is("none in a minute", 0, rank.pass(1));
+        due.is("the other two", 54 + 66, rank.pass(3));
+        due.is("those from before do not count", 0, rank.pass(999));
+        due.is("count(8)", 162, rank.count(8));
+        rank.call(10, 11);
+        rank.call(10, 11);
+        due.is("two in the same minute", 84, rank.pass(2));
+        rank.pass(2);
+        rank.arrive(11);
+        rank.arrive(11);
+        rank.arrive(11);
+        rank.arrive(11);
+        due.is("one taxi is paid twice", 42 * 4, rank.pass(1 + 4 + 2));
     }
 
     private static void patience() {

@@ -8,6 +8,7 @@ public final class TaxisTest {
         comeWithoutRoom();
         goHome();
         goHomeFromRest();
+        whateverItDoes();
         set();
         setLeavesWhatBegan();
         due.end();
@@ -112,6 +113,69 @@ public final class TaxisTest {
         due.taxi(rank, 1, 5, TaxiRank.NONE, 0, 40);
         rank.come(1);
         due.taxi(rank, 1, 0, 0, 0, 0, 1, 1, 150, 0, 0, 1);
+    }
+
+    /** A taxi 1 that does that, and none beside it. */
+    private static TaxiRank thatDoes(int doing) {
+        TaxiRank rank = Due.withTaxis(1);
+        rank.set(3, 30);
+        switch (doing) {
+            case 1:
+                rank.call(5, 6);
+                break;
+            case 2:
+                rank.call(10, 11);
+                break;
+            case 3:
+                rank.call(10, 11);
+                rank.pass(2);
+                break;
+            case 4:
+                rank.call(10, 20);
+                rank.pass(40);
+                break;
+            case 5:
+                rank.goHome(1);
+                break;
+            default:
+                break;
+        }
+        due.is("taxi(1, 0)", doing, rank.taxi(1, 0));
+        return rank;
+    }
+
+    private static void whateverItDoes() {
+        int none = TaxiRank.NONE;
+        int not = TaxiRank.NOT_POSSIBLE;
+        int[] comes = {not, not, not, not, not, 0};
+        int[] goes = {0, not, not, not, 0, none};
+        int[] called = {1, not, not, 1, not, not};
+        int[] rides = {1, none, none, none, none, none};
+        int[] reasons = {0, 1, 1, 1, 1, 1};
+        int[] left = {0, 10, 2, 2, 45, 0};
+        int[] inLineIn = {0, 20, 4, 2, 45, none};
+        for (int doing = 0; doing <= 5; doing++) {
+            String so = " as it does " + doing;
+            due.is("come(1)" + so, comes[doing], thatDoes(doing).come(1));
+            due.is("goHome(1)" + so, goes[doing], thatDoes(doing).goHome(1));
+            due.is("call(12, 13)" + so, called[doing], thatDoes(doing).call(12, 13));
+            due.is("ifCalled(12, 13, 0)" + so, called[doing], thatDoes(doing).ifCalled(12, 13, 0));
+            due.is("rides(5)" + so, rides[doing], thatDoes(doing).rides(5));
+            due.is("reason(1, 5)" + so, reasons[doing], thatDoes(doing).reason(1, 5));
+            due.is("taxi(1, 1)" + so, doing == 0 ? 0 : none, thatDoes(doing).taxi(1, 1));
+            due.is("taxi(1, 2)" + so, left[doing], thatDoes(doing).taxi(1, 2));
+            due.is("inLineIn(1)" + so, inLineIn[doing], thatDoes(doing).inLineIn(1));
+            due.is("count(3)" + so, doing == 0 ? 1 : 0, thatDoes(doing).count(3));
+            TaxiRank rank = thatDoes(doing);
+            int before = rank.count(9);
+            rank.pass(1);
+            due.is("a minute at the wheel" + so, doing >= 1 && doing <= 3 ? 1 : 0, rank.count(9) - before);
+        }
+        TaxiRank rank = thatDoes(4);
+        rank.come(2);
+        rank.come(3);
+        due.is("from its rest, with two in the line", 2, rank.goHome(1));
+        due.line(rank, 2, 3);
     }
 
     private static void set() {
