@@ -797,7 +797,7 @@ public final class TaxiRank {
 
         private void seatPassengers() {
             int rank = 0;
-            for (int asked = queue.length; asked > 0; asked--) {
+            for (int asked = queue.length; asked > 0 && rank < queue.length; asked--) {
                 int to = queue.wants[rank];
                 Taxi taxi = taxiForRide(to);
                 if (taxi == null) {

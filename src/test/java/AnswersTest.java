@@ -8,9 +8,14 @@ public final class AnswersTest {
         rides();
         ifCalled();
         reason();
+        reasonByTheWay();
         ridesIn();
+        ridesInOfFifteen();
         ridesInWithoutTaxis();
+        ridesInBehindARest();
+        ridesInOnADayAtHome();
         inLineIn();
+        inLineInAsOthersRide();
         inLineInLong();
         inLineInAtMost();
         shares();
@@ -139,6 +144,29 @@ public final class AnswersTest {
         due.is("22 would", 0, rank.reason(22, 6));
     }
 
+    private static void reasonByTheWay() {
+        TaxiRank rank = Due.withTaxis(1, 2);
+        rank.call(10, 0);
+        rank.pass(40);
+        rank.goHome(2);
+        rank.come(2);
+        due.line(rank, 1, 2);
+        // somebody who waits rides in a minute only, and changes nothing of what would be now
+        for (int round = 0; round < 2; round++) {
+            due.is("short, and the first", 0, rank.reason(1, 16));
+            due.is("short, and not the first", 4, rank.reason(2, 16));
+            due.is("long, with a long fare more", 4, rank.reason(1, 17));
+            due.is("long, with the fewest", 0, rank.reason(2, 17));
+            due.is("rides(16)", 1, rank.rides(16));
+            due.is("rides(17)", 2, rank.rides(17));
+            rank.arrive(16);
+            rank.arrive(17);
+        }
+        rank.set(2, 8);
+        due.is("short now, and the first", 0, rank.reason(1, 17));
+        due.is("short now, and not the first", 4, rank.reason(2, 17));
+    }
+
     private static void ridesIn() {
         TaxiRank rank = Due.withTaxis(1);
         due.is("ridesIn(0)", TaxiRank.UNKNOWN, rank.ridesIn(0));
@@ -171,6 +199,26 @@ public final class AnswersTest {
         due.is("third", 17, rank.ridesIn(2));
     }
 
+    private static void ridesInOfFifteen() {
+        // two taxis, which are back 4 minutes behind each ride
+        TaxiRank rank = Due.withTaxis(1, 2);
+        rank.set(1, 27);
+        rank.call(10, 11);
+        for (int i = 0; i < 15; i++) {
+            rank.arrive(i % 2 == 0 ? 9 : 11);
+        }
+        int[] minutes = {1, 4, 5, 8, 9, 12, 13, 16, 17, 20, 21, 24, 25, TaxiRank.NONE, TaxiRank.NONE};
+        for (int i = 0; i < minutes.length; i++) {
+            due.is("ridesIn(" + i + ")", minutes[i], rank.ridesIn(i));
+        }
+        due.is("ridesIn(15)", TaxiRank.UNKNOWN, rank.ridesIn(15));
+        rank.goHome(2);
+        due.is("in the line in", TaxiRank.NONE, rank.inLineIn(2));
+        for (int i = 0; i < minutes.length; i++) {
+            due.is("ridesIn(" + i + ") with one taxi", i < 6 ? 4 + 4 * i : TaxiRank.NONE, rank.ridesIn(i));
+        }
+    }
+
     private static void ridesInWithoutTaxis() {
         TaxiRank rank = new TaxiRank();
         rank.set(1, 240);
@@ -189,6 +237,39 @@ public final class AnswersTest {
         due.is("on the next day", 139, rank.ridesIn(0));
         rank.set(1, 50);
         due.is("leaves in the next minute", TaxiRank.NONE, rank.ridesIn(0));
+    }
+
+    private static void ridesInBehindARest() {
+        TaxiRank rank = Due.withTaxis(1);
+        rank.set(3, 30);
+        rank.set(4, 20);
+        rank.call(10, 20);
+        rank.pass(39);
+        rank.arrive(11);
+        due.is("a way back of 1 and a rest of 20", 21, rank.ridesIn(0));
+        rank.pass(1);
+        due.is("a rest of 20", 20, rank.ridesIn(0));
+        rank.set(4, 200);
+        due.is("the rest is as it began", 20, rank.ridesIn(0));
+        rank.set(1, 21);
+        due.is("would leave in the minute in which the rest ends", TaxiRank.NONE, rank.ridesIn(0));
+        rank.set(1, 22);
+        rank.pass(20);
+        due.is("off", 2, rank.taxi(1, 0));
+        due.is("nobody waits", TaxiRank.UNKNOWN, rank.ridesIn(0));
+    }
+
+    private static void ridesInOnADayAtHome() {
+        TaxiRank rank = Due.withTaxis(21);
+        Due.passTo(rank, 1440);
+        rank.arrive(5);
+        due.is("leaves, for 21 takes nobody on day 1", TaxiRank.NONE, rank.ridesIn(0));
+        rank.come(32);
+        due.is("rides with another one", 1, rank.ridesIn(0));
+        rank.goHome(32);
+        Due.passTo(rank, 2880 - 20);
+        rank.arrive(5);
+        due.is("rides as day 2 begins", 20, rank.ridesIn(0));
     }
 
     private static void inLineIn() {
@@ -214,6 +295,24 @@ public final class AnswersTest {
         due.is("it rides off as it comes, for 9 places and 9", 45 + 81 + 81 + 45, rank.inLineIn(1));
         due.is("nothing is done", 78, rank.count(0));
         due.is("nothing is done", 4, rank.taxi(1, 0));
+    }
+
+    private static void inLineInAsOthersRide() {
+        TaxiRank rank = Due.withTaxis(1, 2);
+        rank.call(10, 11);
+        rank.arrive(0);
+        due.is("2 takes the passenger, so 1 is in the line", 4, rank.inLineIn(1));
+        due.is("2 is in it still", 0, rank.inLineIn(2));
+        rank.arrive(20);
+        due.is("1 takes the other one as it comes", 4 + 40, rank.inLineIn(1));
+        rank.set(1, 4);
+        due.is("who has left by then", 4, rank.inLineIn(1));
+        rank.set(1, 30);
+        rank.pass(1);
+        due.is("2 is off", 40, rank.inLineIn(2));
+        due.is("1 has a minute less", 3 + 40, rank.inLineIn(1));
+        rank.come(13);
+        due.is("13 takes the other one now", 3, rank.inLineIn(1));
     }
 
     private static void inLineInLong() {
@@ -259,6 +358,13 @@ public final class AnswersTest {
             due.is("without taxis", TaxiRank.NONE, rank.shares(what));
         }
         rank.come(5);
+        rank.call(10, 11);
+        rank.pass(4);
+        due.is("one taxi, less itself", 0, rank.shares(0));
+        due.is("the most", 5, rank.shares(1));
+        due.is("the fewest", 5, rank.shares(2));
+        rank.undo();
+        rank.undo();
         rank.come(3);
         rank.come(4);
         due.is("alike", 0, rank.shares(0));

@@ -20,6 +20,7 @@ public final class DaysTest {
         homeDayOfCallsOnTheWayBack();
         wayOverTheEndOfTheDay();
         quickOverTheEndOfTheDay();
+        accountsOverTheEndOfTheDay();
         restOverTheEndOfTheDay();
         passengerAtTheEndOfTheDay();
         passengersOverTheEndOfTheDay();
@@ -155,6 +156,38 @@ public final class DaysTest {
         due.is("so the next one rides", 32, rank.rides(11));
     }
 
+    /** A new day alone changes no account, and nobody's place in the line. */
+    private static void accountsOverTheEndOfTheDay() {
+        TaxiRank rank = Due.withTaxis(32, 43);
+        rank.set(1, 10);
+        rank.call(9, 0);
+        rank.pass(40);
+        rank.goHome(43);
+        rank.come(43);
+        rank.arrive(11);
+        rank.pass(5);
+        rank.goHome(43);
+        rank.call(10, 0);
+        rank.arrive(1);
+        rank.pass(11);
+        rank.pass(29);
+        rank.arrive(11);
+        rank.pass(5);
+        rank.come(43);
+        due.line(rank, 32, 43);
+        due.taxi(rank, 32, 0, 0, 0, 88, 4, 2, 372, 2, 1, 1);
+        for (int clock = 90; clock <= 13 * DAY; clock += DAY) {
+            Due.passTo(rank, clock);
+            due.line(rank, 32, 43);
+            due.taxi(rank, 32, 0, 0, 0, 88, 4, 2, 372, 2, 1, clock / DAY % 10 == 2 ? 0 : 1);
+            due.is("passengers and callers", 4, rank.count(5));
+            due.is("passengers who left", 1, rank.count(6));
+            due.is("calls", 2, rank.count(7));
+            due.is("coins", 372, rank.count(8));
+            due.is("minutes at the wheel", 88, rank.count(9));
+        }
+    }
+
     private static void restOverTheEndOfTheDay() {
         TaxiRank rank = Due.withTaxis(21);
         rank.set(3, 30);
@@ -268,6 +301,9 @@ public final class DaysTest {
         due.is("count(15)", 4, rank.count(15));
         due.is("on its way to the caller", 1, rank.taxi(1, 0));
         due.is("no minute more", FULL, rank.pass(1));
+        due.is("when it would be in the line is told all the same", 10 + 1 + 4 + 7 + 7, rank.inLineIn(1));
+        rank.come(8);
+        due.is("and when the passenger would ride", 1, rank.ridesIn(0));
     }
 
     private static void backFromTheLastMinute() {

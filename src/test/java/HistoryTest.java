@@ -273,6 +273,17 @@ public final class HistoryTest {
         rank.perform();
         rank.pass(10);
         due.is("three states", 3, rank.count(15));
+        due.is("another snapshot", 11, rank.keep());
+        due.is("it is no state of the history", 3, rank.count(15));
+        textAndStop(rank, 12, 2);
+        due.is("back to it", 11, rank.restore());
+        rank.undo();
+        rank.undo();
+        rank.undo();
+        due.is("a snapshot as at first", 0, rank.keep());
+        rank.pass(1);
+        rank.pass(10);
+        due.is("three states", 3, rank.count(15));
         due.is("restore()", 0, rank.restore());
         due.is("one more state", 4, rank.count(15));
         textAndStop(rank, 12, 2);

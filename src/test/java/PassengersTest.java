@@ -6,6 +6,7 @@ public final class PassengersTest {
         arrive();
         callErrors();
         callTakers();
+        longCallsGoToTheFirst();
         callFromTheWayBack();
         callAtOnce();
         passErrors();
@@ -79,6 +80,22 @@ public final class PassengersTest {
         due.is("count(8)", 420, rank.count(8));
         due.line(rank, 13, 21);
         due.taxi(rank, 32, 3, TaxiRank.NONE, 20, 60, 1, 1, 270);
+    }
+
+    /** The fewest long fares count for passengers of the rank alone. */
+    private static void longCallsGoToTheFirst() {
+        TaxiRank rank = Due.withTaxis(1, 2);
+        rank.call(10, 0);
+        rank.pass(40);
+        rank.goHome(2);
+        rank.come(2);
+        due.line(rank, 1, 2);
+        due.is("a passenger of the rank to the place 20", 2, rank.rides(20));
+        due.is("a call from the rank to there", 1, rank.ifCalled(10, 20, 0));
+        due.is("a long call from elsewhere", 1, rank.ifCalled(0, 20, 0));
+        due.is("a short one from far away", 1, rank.ifCalled(0, 1, 0));
+        due.is("call(0, 20)", 1, rank.call(0, 20));
+        due.taxi(rank, 1, 1, TaxiRank.NONE, 20, 40, 2, 2);
     }
 
     private static void callFromTheWayBack() {
